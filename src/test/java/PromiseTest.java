@@ -182,6 +182,14 @@ public final class PromiseTest {
         dueSetUp(x, 0);
         due("setUp() behind the end", over().setUp(), 96);
         x = bare();
+        x.put(0, 0, CROWN, 9);
+        x.put(1, 1, CROWN, 9);
+        x.move(0, 1);
+        due("over", x.count(1), 1);
+        due("a bonus", x.count(22), 1);
+        due("setUp() behind the end", x.setUp(), 96);
+        dueSetUp(x, 4);
+        x = bare();
         x.pass();
         x.setUp();
         for (int cell = 0; cell < 36; cell++) {
@@ -402,7 +410,13 @@ public final class PromiseTest {
         due("over again", x.count(1), 1);
         due("winner again", x.count(2), 0);
         due("account 6 again", x.count(26), 18 - 96);
-        due("undo the end", x.undo(), 3);
+        x.set(0, 12);
+        x.setUp();
+        due("account 0", x.count(20), 144);
+        x.undo();
+        due("account 0 again", x.count(20), 96);
+        due("undo set", x.undo(), 3);
+        due("undo the end", x.undo(), 2);
         due("goes on", x.count(1), 0);
         due("no winner", x.count(2), MISSING);
         due("account 2 again", x.count(22), 0);
@@ -595,6 +609,15 @@ public final class PromiseTest {
         due("pass of 0", x.pass(), 0);
         due("goes on", x.count(1), 0);
         due("made", x.count(3), 5);
+        x = bare();
+        x.put(0, 0, WALKER, 1);
+        due("pass with one move", x.pass(), IMPOSSIBLE);
+        due("the move", x.move(0, 6), 1);
+        due("pass of 1 ahead of 0", x.pass(), 0);
+        due("mover", x.count(0), 0);
+        due("goes on", x.count(1), 0);
+        due("pass of 0 behind 1", x.pass(), 1);
+        due("mover stays", x.count(0), 0);
         x = bare();
         due("pass", x.pass(), 0);
         x.put(2, 1, CROWN, 1);
@@ -813,6 +836,13 @@ public final class PromiseTest {
         dueList(x, 0, 12 * 36 + 18, 12 * 36 + 19, 30 * 36 + 18, 30 * 36 + 24, 30 * 36 + 31,
             30 * 36 + 32);
         dueList(x, 1);
+        x.put(1, 0, CROWN, 1);
+        x.put(0, 0, WALKER, 1);
+        dueList(x, 0, 6, 36 + 2, 36 + 6, 36 + 7, 12 * 36 + 18, 12 * 36 + 19, 30 * 36 + 18,
+            30 * 36 + 24, 30 * 36 + 31, 30 * 36 + 32);
+        x.put(0, -1, 0, 0);
+        due("to the cell 0", x.listed(0, 0), 36);
+        x.put(1, -1, 0, 0);
         x.put(13, 0, CROWN, 1);
         x.put(24, 0, WALKER, 0);
         x.move(13, 19);
@@ -878,6 +908,9 @@ public final class PromiseTest {
         due("reach(24, 12)", x.reach(24, 12), 3);
         dueSetUp(x, 4);
         x = bare();
+        x.put(35, 0, CROWN, 9);
+        due("all, from the last", x.reach(35, 5), 36);
+        x.put(35, -1, 0, 0);
         x.put(0, 0, CROWN, 2);
         due("no move", x.reach(0, 0), 1);
         due("one move", x.reach(0, 1), 4);
@@ -915,6 +948,15 @@ public final class PromiseTest {
         due("back across its own cell", x.reach(1, 2), 15);
         x.put(1, 0, ROLLER, 0);
         due("no spring", x.reach(1, 12), 1);
+        // A way of more moves may leave more of the spring: both have to be followed.
+        x = bare();
+        x.set(0, 12);
+        int[] walls = {7, 9, 17, 23, 25, 28};
+        for (int wall : walls) {
+            x.put(wall, 1, WALKER, 0);
+        }
+        x.put(5, 0, ROLLER, 11);
+        due("all but the walls", x.reach(5, 6), 30);
     }
 
     private static void replies() {
@@ -938,6 +980,9 @@ public final class PromiseTest {
         x.move(0, 7);
         due("over", x.replies(), 0);
         x = bare();
+        x.put(1, 0, CROWN, 1);
+        due("to the cell 0, too", x.replies(), 5);
+        x.put(1, -1, 0, 0);
         x.put(31, 0, WALKER, 1);
         x.put(20, 1, WALKER, 1);
         due("stalled", x.replies(), 0);
@@ -971,6 +1016,11 @@ public final class PromiseTest {
         due("the other one then", x.best(), 8 * 36 + 7);
         x.move(8, 7);
         due("over", x.best(), MISSING);
+        // A loss is not worse than nothing: there is a best one, if all lose.
+        x = bare();
+        x.put(34, 0, CROWN, 1);
+        x.put(0, 1, CROWN, 9);
+        due("all are the same", x.best(), 34 * 36 + 27);
         // What is wound at the next turn would make the first move worse.
         x = bare();
         x.put(6, 0, CROWN, 3);
