@@ -10,6 +10,10 @@ final class Check {
         part = name;
     }
 
+    static int wrong() {
+        return wrong;
+    }
+
     static void due(String call, long got, long want) {
         if (got != want) {
             wrong++;

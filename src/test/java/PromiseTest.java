@@ -1,17 +1,5 @@
 /** One part for each promise of the document: ordinary inputs, edges and wrong inputs. */
-public final class PromiseTest {
-    private static final int INVALID = -1;
-    private static final int IMPOSSIBLE = -2;
-    private static final int LIMIT = -3;
-    private static final int MISSING = -4;
-    private static final int CROWN = 0;
-    private static final int ROLLER = 1;
-    private static final int SLIDER = 2;
-    private static final int HOPPER = 3;
-    private static final int WALKER = 4;
-    private static final int[] WRONG_CELLS = {-1, 36, Integer.MIN_VALUE, Integer.MAX_VALUE};
-    private static final int[] WRONG_SIDES = {-1, 2, Integer.MIN_VALUE, Integer.MAX_VALUE};
-
+public final class PromiseTest extends Games {
     private PromiseTest() {
     }
 
@@ -46,98 +34,6 @@ public final class PromiseTest {
         faultOfForm();
         play();
         Check.finish();
-    }
-
-    // ---- helpers
-
-    private static void due(String call, long got, long want) {
-        Check.due(call, got, want);
-    }
-
-    /** A game without pieces; its history is full. */
-    private static ClockworkChess bare() {
-        ClockworkChess x = new ClockworkChess();
-        for (int cell = 0; cell < 36; cell++) {
-            x.put(cell, -1, 0, 0);
-        }
-        return x;
-    }
-
-    private static void write(ClockworkChess x, String text) {
-        x.clearText();
-        for (int at = 0; at < text.length(); at++) {
-            due("type in " + text, x.type(text.charAt(at)), at + 1);
-        }
-    }
-
-    private static void dueFault(ClockworkChess x, String text, int position, int reason) {
-        write(x, text);
-        due("fault(0) of " + text, x.fault(0), position);
-        due("fault(1) of " + text, x.fault(1), reason);
-        due("play() of " + text, x.play(), IMPOSSIBLE);
-    }
-
-    private static void dueNoFault(ClockworkChess x, String text) {
-        write(x, text);
-        due("fault(0) of " + text, x.fault(0), MISSING);
-        due("fault(1) of " + text, x.fault(1), MISSING);
-    }
-
-    private static void dueCell(ClockworkChess x, int cell, int side, int kind, int spring) {
-        due("side on " + cell, x.cell(cell, 0), side);
-        due("kind on " + cell, x.cell(cell, 1), kind);
-        due("spring on " + cell, x.cell(cell, 2), spring);
-    }
-
-    private static void dueAccounts(ClockworkChess x, int... wanted) {
-        for (int i = 0; i < wanted.length; i++) {
-            due("account " + i, x.count(20 + i), wanted[i]);
-        }
-        dueBalance(x);
-    }
-
-    private static void dueBalance(ClockworkChess x) {
-        due("balance", x.count(20) + x.count(21) + x.count(22) + x.count(26),
-            x.count(23) + x.count(24) + x.count(25));
-        due("springs of both", x.count(25), x.count(6) + x.count(7));
-    }
-
-    private static void dueList(ClockworkChess x, int side, int... wanted) {
-        due("moves(" + side + ")", x.moves(side), wanted.length);
-        for (int i = 0; i < wanted.length; i++) {
-            due("listed(" + side + ", " + i + ")", x.listed(side, i), wanted[i]);
-        }
-        due("listed behind the last", x.listed(side, wanted.length), MISSING);
-    }
-
-    private static void dueSetUp(ClockworkChess x, int spring) {
-        int[] first = {ROLLER, HOPPER, CROWN, SLIDER, HOPPER, ROLLER};
-        for (int column = 0; column < 6; column++) {
-            dueCell(x, column, 0, first[column], spring);
-            dueCell(x, 6 + column, 0, WALKER, spring);
-            dueCell(x, 24 + column, 1, WALKER, spring);
-            dueCell(x, 30 + column, 1, first[column], spring);
-        }
-        for (int cell = 0; cell < 36; cell++) {
-            boolean isTower = cell == 0 || cell == 5 || cell == 14 || cell == 21 || cell == 30
-                || cell == 35;
-            due("tower on " + cell, x.cell(cell, 3), isTower ? 1 : 0);
-        }
-        due("pieces", x.count(4), 24);
-        due("towers", x.count(5), 6);
-        due("mover", x.count(0), 0);
-        due("ending", x.count(1), 0);
-        due("winner", x.count(2), MISSING);
-        due("made", x.count(3), 0);
-        dueAccounts(x, 24 * spring, 0, 0, 0, 0, 24 * spring, 0);
-    }
-
-    /** A game that is over by two passes, with a history that is full. */
-    private static ClockworkChess over() {
-        ClockworkChess x = bare();
-        due("first pass", x.pass(), 0);
-        due("second pass", x.pass(), 1);
-        return x;
     }
 
     // ---- promises
@@ -720,7 +616,8 @@ public final class PromiseTest {
         x.put(14, 1, WALKER, 12);
         dueCosts(x, 14, new int[] {8}, new int[] {1});
         // No line goes around the border.
-        x.put(14, -1, 0, 0);
+        x = bare();
+        x.set(0, 12);
         x.put(11, 0, CROWN, 12);
         dueCosts(x, 11, new int[] {4, 5, 10, 16, 17}, new int[] {1, 1, 1, 1, 1});
         x.put(11, 0, SLIDER, 12);
@@ -757,9 +654,9 @@ public final class PromiseTest {
         for (int i = 0; i < to.length; i++) {
             wanted[to[i]] = costs[i];
         }
-        for (int cell = 0; cell < 36; cell++) {
-            due("cost(" + from + ", " + cell + ") of kind " + x.cell(from, 1), x.cost(from, cell),
-                wanted[cell]);
+        int kind = x.cell(from, 1);
+        for (int cell = 0; cell < CELLS; cell++) {
+            due("cost(" + from + ", " + cell + ") of kind " + kind, x.cost(from, cell), wanted[cell]);
         }
         due("moves from " + from, x.cell(from, 4), to.length);
     }
@@ -1139,11 +1036,12 @@ public final class PromiseTest {
         String[] wrong = {"a", "a2", "a2a", "a2a3", "a2a3:", "A2a3;", "a2A3;", "g2a3;", "a2g3;",
             "a0a3;", "a7a3;", "a2a0;", "a2a7;", "-", "--;", "- ;", ";", ";;", " a2a3;", "a2-a3;",
             "`2a3;", "a/a3;", "2aa3;", "a2a3 ;", "-a2a3;", "~", "a2;a3;"};
-        ClockworkChess x = new ClockworkChess();
         for (String text : wrong) {
+            ClockworkChess x = new ClockworkChess();
             dueFault(x, text, 0, 1);
             dueFault(x, "a2a3;" + text, 5, 1);
         }
+        ClockworkChess x = new ClockworkChess();
         dueFault(x, "a2a3;a5a4; ", 10, 1);
         dueFault(x, "a2a3;;", 5, 1);
         write(x, "a2a3;");
