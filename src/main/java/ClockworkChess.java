@@ -163,11 +163,12 @@ public final class ClockworkChess {
     }
 
     public int undo() {
-        if (stateCount <= 0 || stateCount > states.length) {
+        Game latest = stateAt(stateCount - 1);
+        if (latest == null) {
             return NOT_POSSIBLE;
         }
         stateCount--;
-        game.copyFrom(states[stateCount]);
+        game.copyFrom(latest);
         return stateCount;
     }
 
@@ -368,10 +369,15 @@ public final class ClockworkChess {
             states[states.length - 1] = oldest;
             stateCount = states.length - 1;
         }
-        if (stateCount >= 0 && stateCount < states.length) {
-            states[stateCount].copyFrom(game);
+        Game latest = stateAt(stateCount);
+        if (latest != null) {
+            latest.copyFrom(game);
             stateCount++;
         }
+    }
+
+    private Game stateAt(int index) {
+        return index >= 0 && index < states.length ? states[index] : null;
     }
 
     /** One move more: of several ways to a cell only the one that leaves most can matter. */

@@ -436,6 +436,11 @@ final class TermSentences extends Games {
             y.setUp();
             clear(y);
             due("a pass in the game before does not count", y.pass(), 0);
+            // What is set up between them is no move of a side.
+            put(y, "1 walker b1 3");
+            y.tower(0);
+            y.set(1, 0);
+            due("pass of 1 behind the one of 0", y.pass(), 1);
         });
         Doc.says("then the side with the greater sum of springs wins, or none.", x -> {
             due("3 and 2", over("0 walker b6 3", "1 walker b1 2").count(2), 0);
@@ -445,6 +450,10 @@ final class TermSentences extends Games {
             due("0 and none", over("0 walker b6 0").count(2), MISSING);
             due("none and none", over().count(2), MISSING);
             due("with what was wound", over("0 walker b6 1", "1 walker f1 0").count(2), 1);
+            ClockworkChess y = over("0 walker b6 3", "1 walker b1 2");
+            y.set(0, 1);
+            due("the sums are the same later on", y.count(6), y.count(7));
+            due("but the game is won", y.count(2), 0);
         });
     }
 
