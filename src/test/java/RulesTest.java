@@ -28,6 +28,8 @@ public final class RulesTest {
         "\\bsynchronized\\b", "\\bassert\\b", "\\bimport\\b", "\\bpackage\\b", "->", "::",
         "\\bstatic\\s*\\{", "\\bprotected\\b", "\\bvar\\b", "\\bSystem\\.(?!arraycopy)",
         "Exact\\(", "@", "\\bObject\\b", "\\bnative\\b", "\\bvolatile\\b", "\\bRandom\\b");
+    private static final Set<String> LIBRARY = Set.of("System.arraycopy", "Math.abs", "Math.max",
+        "Math.min", "Integer.compare");
     private static final Pattern METHOD = Pattern.compile(
         "^ {4,8}(?:public|private)[^=;(]*?\\b(\\w+)\\(([^)]*)\\) \\{$", Pattern.MULTILINE);
 
@@ -43,9 +45,19 @@ public final class RulesTest {
         for (String word : FORBIDDEN) {
             Check.holds("no " + word, !Pattern.compile(word).matcher(source).find());
         }
+        library(source);
         sizes(source);
         Check.holds("calls at most eight deep", deepest(bodies(source)) <= 8);
         Check.finish();
+    }
+
+    /** What the class uses of the library, of which more is allowed; it has no texts of its own. */
+    private static void library(String source) {
+        Matcher use = Pattern.compile("\\b[A-Z]\\w*[a-z]\\w*\\.\\w+").matcher(source);
+        while (use.find()) {
+            Check.holds(use.group() + " is of the library", LIBRARY.contains(use.group()));
+        }
+        Check.holds("no text", source.indexOf('"') < 0);
     }
 
     private static void face() {
