@@ -602,6 +602,7 @@ final class MoveSentences extends Games {
             move(x, "a2a3");
             due("as listed(1, 0), of the side 1", x.best(), x.listed(1, 0));
             due("to the first cell from the second one", bare("0 roller b1 1").best(), 36);
+            due("not ahead of the first cell", bare("0 crown a1 1").best(), told("a1b1"));
             ClockworkChess y = bare("1 walker b2 1");
             y.pass();
             due("from 7 to 1", y.best(), 36 * 7 + 1);
@@ -613,6 +614,7 @@ final class MoveSentences extends Games {
             due("stalled, whatever the other side has", bare("1 crown c4 9").best(), MISSING);
             due("without spring", bare("0 crown c4 0").best(), MISSING);
             due("one move", bare("0 walker b5 1").best(), told("b5b6"));
+            due("not behind the last cell", bare("0 walker a6 9").best(), MISSING);
         });
     }
 }
